@@ -238,13 +238,13 @@ public final class CopyDebts {
 
     public int most() throws IllegalStateException {
         needMemory();
-        int deepest = live.deepestPlace();
+        int deepest = live.placeFor(POLICY_MOST_HOPS);
         return deepest == NONE ? 0 : live.memory.hopsOf(deepest);
     }
 
     public int deepest() throws IllegalStateException {
         needMemory();
-        return live.deepestPlace();
+        return live.placeFor(POLICY_MOST_HOPS);
     }
 
     public int distance(int place, int other) throws IllegalStateException, IndexOutOfBoundsException {
@@ -256,7 +256,7 @@ public final class CopyDebts {
 
     public int oldest() throws IllegalStateException {
         needMemory();
-        int place = live.bestPlace(POLICY_OLDEST);
+        int place = live.placeFor(POLICY_OLDEST);
         return place == NONE ? NONE : live.memory.promises[place];
     }
 
@@ -274,7 +274,7 @@ public final class CopyDebts {
 
     public int next() throws IllegalStateException {
         needMemory();
-        return live.nextPlace();
+        return live.placeFor(live.memory.settings[POLICY]);
     }
 
     public int stale() throws IllegalStateException {
@@ -1021,7 +1021,7 @@ public final class CopyDebts {
         int passTicks(int ticks) {
             int due = Math.min(ticks * memory.settings[BAND], memory.countOwed());
             for (int k = 0; k < due; k++) {
-                pay(nextPlace(), PAID_IDLE);
+                pay(placeFor(memory.settings[POLICY]), PAID_IDLE);
             }
             return due;
         }
@@ -1045,7 +1045,7 @@ public final class CopyDebts {
         void keepLimit() {
             int surplus = memory.countOwed() - memory.settings[LIMIT];
             for (int k = 0; k < surplus; k++) {
-                pay(nextPlace(), PAID_FORCED);
+                pay(placeFor(memory.settings[POLICY]), PAID_FORCED);
             }
         }
 
@@ -1053,7 +1053,7 @@ public final class CopyDebts {
         int payUntilPaid(int place) {
             int paid = 0;
             while (paid < MAX_PLACES && memory.owes(place)) {
-                pay(nextPlace(), PAID_IDLE);
+                pay(placeFor(memory.settings[POLICY]), PAID_IDLE);
                 paid++;
             }
             return paid;
@@ -1102,16 +1102,8 @@ public final class CopyDebts {
             }
         }
 
-        int nextPlace() {
-            return bestPlace(memory.settings[POLICY]);
-        }
-
-        int deepestPlace() {
-            return bestPlace(POLICY_MOST_HOPS);
-        }
-
         /** The place that a policy would pay next; NONE if no place owes. */
-        int bestPlace(int policy) {
+        int placeFor(int policy) {
             measureDepths();
             int best = NONE;
             int bestRank = 0;
@@ -1459,28 +1451,20 @@ public final class CopyDebts {
                 kind = SEMICOLON;
                 end = start + 1;
             } else if (isLetter(start)) {
-                scanWord();
+                while (end < length && isLetter(end)) {
+                    end++;
+                }
+                kind = end - start > WORD_LETTERS ? NO_TOKEN : WORD;
             } else if (isDigit(start)) {
-                scanNumber();
+                number = 0;
+                while (end < length && isDigit(end)) {
+                    number = number * 10 + buffer[end] - '0';
+                    end++;
+                }
+                kind = end - start > NUMBER_DIGITS ? NO_TOKEN : NUMBER;
             } else {
                 kind = NO_TOKEN;
             }
-        }
-
-        private void scanWord() {
-            while (end < length && isLetter(end)) {
-                end++;
-            }
-            kind = end - start > WORD_LETTERS ? NO_TOKEN : WORD;
-        }
-
-        private void scanNumber() {
-            number = 0;
-            while (end < length && isDigit(end)) {
-                number = number * 10 + buffer[end] - '0';
-                end++;
-            }
-            kind = end - start > NUMBER_DIGITS ? NO_TOKEN : NUMBER;
         }
 
         private boolean isLetter(int at) {
