@@ -13,6 +13,7 @@ public final class DebtsTest {
         oldestAndCreditors();
         nextByEachPolicy();
         stale();
+        theFirstAndTheLastPlace();
         Check.finish();
     }
 
@@ -152,6 +153,40 @@ public final class DebtsTest {
         Check.due("28: stale()", x.stale(), 2);
         x.payRange(5, 5);
         Check.due("28: stale() then", x.stale(), 1);
+    }
+
+    private static void theFirstAndTheLastPlace() {
+        CopyDebts x = Check.loaded("memory 4 band 1 limit 4 policy 0;put 1 6 7;copy 1 0 1;copy 0 3 1;copy 2 1 1");
+        // Place 0 was forced by the last copy, which had it owe to its target; 3 < 0 and 1 < 2 are left.
+        Check.due("20: debts()", told(x), "1x1<2:2 3x1<0:1");
+        CopyDebts y = Check.loaded("memory 4 band 1 limit 4 policy 2;put 2 6 7;copy 2 0 2");
+        Check.due("17: owed()", y.owed(), 2);
+        Check.due("18: owedIn(0, 0)", y.owedIn(0, 0), 1);
+        Check.due("19: firstOwed(0)", y.firstOwed(0), 0);
+        Check.due("20: debts()", told(y), "0x2<2:0");
+        Check.due("22: most()", y.most(), 1);
+        Check.due("23: deepest()", y.deepest(), 0);
+        Check.due("24: distance(0, 2)", y.distance(0, 2), 1);
+        Check.due("26: creditors()", y.creditors(), 2);
+        Check.due("27: next()", y.next(), 0);
+        Check.due("28: stale()", y.stale(), 2);
+        Check.due("48: writeDebts()", Check.text(y, y.writeDebts()), "0x2<2");
+        Check.due("57: tick(1)", y.tick(1), 1);
+        Check.due("57: it is paid", Check.stored(y), "6 0 6 7");
+        Check.due("26: creditors() then", y.creditors(), 1);
+        // Only the greatest place is a source, only the least one depends on it.
+        CopyDebts z = Check.loaded("memory 96 band 1 limit 96 policy 0;put 95 3;copy 95 0 1");
+        Check.due("16: dependents(95, false)", z.dependents(95, false), 1);
+        Check.due("16: dependents(95, true)", z.dependents(95, true), 1);
+        Check.due("26: creditors()", z.creditors(), 1);
+        Check.due("28: stale()", z.stale(), 1);
+        Check.due("30: find(3, 0)", z.find(3, 0), 0);
+        Check.due("30: find(3, 1)", z.find(3, 1), 95);
+        Check.due("30: find(4, 0)", z.find(4, 0), -1);
+        Check.due("41: paidIn(0)", z.paidIn(0), 1);
+        Check.due("37: forcedByWrite(95)", z.forcedByWrite(95), 1);
+        Check.due("52: write(95, 4)", z.write(95, 4), 1);
+        Check.due("52: the value of 0 stays", z.value(0), 3);
     }
 
     /** All debts as FIRSTxLENGTH<SOURCE:PROMISE. */

@@ -20,6 +20,8 @@ public final class InputTest {
         ruleLines();
         countsOfLines();
         linesAreDoneInTheirOrder();
+        loadsAreApartFromEachOther();
+        loadsOfAPart();
         Check.finish();
     }
 
@@ -184,6 +186,11 @@ public final class InputTest {
         error(HEAD + ";settlement", 1, 33);
         error(HEAD + ";shortshort", 1, 33);
         error(HEAD + ";row", 1, 33);
+        error(HEAD + ";ahort", 1, 33);
+        error(HEAD + ";copz 0 1 1", 1, 33);
+        error(HEAD + ";shor", 1, 33);
+        error(HEAD + ";zzzzzzzz", 1, 33);
+        error(HEAD + ";short " + "z".repeat(9), 1, 39);
         error(HEAD + ";put 0000 1", 1, 37);
         error(HEAD + ";put 0 0001", 1, 39);
         error(HEAD + ";put 0 1 0001", 1, 41);
@@ -193,8 +200,8 @@ public final class InputTest {
     }
 
     private static void putLines() {
-        CopyDebts x = Check.loaded(HEAD + ";put 1 255 0 7;put 5 9;put 3 8");
-        Check.due("6: put fills places one each", Check.stored(x), "0 255 0 8 0 9");
+        CopyDebts x = Check.loaded(HEAD + ";put 1 255 0 7;put 5 9;put 3 8 255");
+        Check.due("6: put fills places one each", Check.stored(x), "0 255 0 8 255 9");
         Check.due("6: put counts nowhere", Check.accounts(x), "0 0 0 0 0 0 0 0 0");
         Check.due("6: put is no event", x.events(), 0);
         Check.due("6: put into locked places", Check.stored(Check.loaded(HEAD + ";lock 0 5;put 4 3 2")),
@@ -302,6 +309,40 @@ public final class InputTest {
         Check.due("6: the accounts", Check.accounts(x), "2 4 0 3 0 0 0 9 0");
         Check.due("6: the bytes", Check.stored(x), "1 9 3 1 2 3");
         Check.due("6: the values", Check.values(x), "1 9 1 1 2 3");
+    }
+
+    private static void loadsAreApartFromEachOther() {
+        String most = HEAD + ";short;settle" + ";put 0 1 2 3 4 5 6".repeat(20) + ";fill 1 1 1".repeat(6)
+                + ";copy 2 3 1;copy 3 4 1" + ";lock 0 5".repeat(6);
+        CopyDebts x = new CopyDebts();
+        for (int k = 0; k < 3; k++) {
+            Check.due("3: the same text again", Check.load(x, most), 6);
+            Check.due("3: the same events again", Check.events(x, 0), "0:3:1 0:4:1 2:3:3 2:4:3");
+        }
+        Check.load(x, HEAD + ";put 0 1;copy 0 1 1;copy 1 2 1");
+        Check.load(x, HEAD);
+        Check.due("3: nothing is left of the text before", Check.state(x),
+                "2 4 1 0 0 ......|0 0 0 0 0 0|- - - - - -|- - - - - -|0 0 0 0 0 0 0 0 0|");
+        Check.noArgument("3: a text that fails behind its lines", () -> Check.load(x, most + ";"));
+        Check.load(x, HEAD + ";put 1 5");
+        Check.due("3: nothing is left of it", Check.state(x),
+                "2 4 1 0 0 ......|0 5 0 0 0 0|- - - - - -|- - - - - -|0 0 0 0 0 0 0 0 0|");
+        Check.due("4: the error is gone", x.parseError(), 0);
+        Check.due("5: its position is gone", x.errorPosition(), -1);
+    }
+
+    private static void loadsOfAPart() {
+        CopyDebts x = new CopyDebts();
+        Check.append(x, "memory 6 band 2 limit 1 policy 10000");
+        Check.due("3: a number that the part ends", x.load(32), 6);
+        Check.due("3: its digits in the part", x.setting(2), 1);
+        Check.append(x, HEAD + ";shorter");
+        Check.due("3: a word that the part ends", x.load(38), 6);
+        Check.due("3: its letters in the part", x.setting(3), 1);
+        Check.append(x, HEAD + ";short");
+        Check.noArgument("3: a part that ends in a word", () -> x.load(37));
+        Check.due("4: the part of the word", x.parseError(), 1);
+        Check.due("5: the part of the word", x.errorPosition(), 33);
     }
 
     private static void error(String text, int code, int position) {

@@ -7,6 +7,7 @@ public final class UndoTest {
         nothingToUndo();
         eightChanges();
         changesBehindAnUndo();
+        eventsAreUndone();
         saves();
         slots();
         restores();
@@ -81,6 +82,24 @@ public final class UndoTest {
         Check.due("51: numbers of promises go back", x.copy(0, 1, 1), 2);
         x.undo();
         Check.due("51: the same number again", x.copy(0, 2, 1), 2);
+    }
+
+    private static void eventsAreUndone() {
+        CopyDebts x = Check.loaded("memory 96 band 20 limit 96 policy 0;copy 0 40 30;copy 0 1 80");
+        Check.due("46: all eighty are kept", x.events(), 80);
+        x.save(0);
+        String all = Check.events(x, 0);
+        Check.load(x, "memory 96 band 20 limit 96 policy 0;copy 0 40 29;copy 0 41 20");
+        x.save(0);
+        String before = Check.events(x, 0);
+        x.copy(1, 2, 90);
+        Check.due("46: eighty again", x.events(), 80);
+        Check.due("46: others", Check.events(x, 0).equals(all), false);
+        x.undo();
+        Check.due("62: events are undone", Check.events(x, 0), before);
+        x.tick(3);
+        x.restore(0);
+        Check.due("65: events are restored", Check.events(x, 0), before);
     }
 
     private static void saves() {

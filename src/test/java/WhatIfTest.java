@@ -73,6 +73,9 @@ public final class WhatIfTest {
         Check.due("34: forced by the limit", x.forcedByCopy(0, 2, 2), 2);
         Check.due("35: LIMIT places owe", x.owedIfCopy(0, 2, 2), 2);
         Check.due("36: three each", x.costOfCopy(0, 2, 2), 6);
+        x.copy(0, 2, 2);
+        Check.due("36: what was paid ahead does not count", x.costOfCopy(0, 6, 1), 3);
+        Check.due("34: nor here", x.forcedByCopy(0, 6, 1), 1);
     }
 
     private static void writes(CopyDebts x) {
