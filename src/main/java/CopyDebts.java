@@ -572,7 +572,7 @@ public final class CopyDebts {
         needMemory();
         needPlace(place);
         history.remember(live.memory);
-        return live.readPlace(place);
+        return live.fetchPlace(place);
     }
 
     public int tick(int ticks) throws IllegalStateException, IllegalArgumentException {
@@ -1009,7 +1009,7 @@ public final class CopyDebts {
             return forced;
         }
 
-        int readPlace(int place) {
+        int fetchPlace(int place) {
             memory.accounts[FETCHES]++;
             memory.accounts[FETCHED_HOPS] += memory.hopsOf(place);
             if (memory.settings[RULE_SETTLE] == 1) {
