@@ -26,6 +26,9 @@ abstract class Edges {
     static final String TEXT = "memory 8 band 2 limit 6 policy 0;put 0 10 20 30 40 50 60 70 80;copy 0 4 2;copy 4 2 1"
             + ";lock 7 7";
     static final int SIZE = 8;
+    /** The bytes are 1 to 8, and nothing owes. */
+    static final String EIGHT = "memory 8 band 2 limit 8 policy 0;put 0 1 2 3 4 5 6 7 8";
+    static final String NINETY_SIX = "memory 96 band 1 limit 96 policy 0";
     private static final String AHEAD = Check.state(Check.loaded(TEXT));
 
     private static String where = "";
@@ -125,6 +128,15 @@ abstract class Edges {
         } else {
             refuses(first, call);
         }
+    }
+
+    /** A memory in which 1 owes to 0, 2 to 1, and so on up to a place. */
+    static CopyDebts chain(String text, int last) {
+        CopyDebts x = Check.loaded(text);
+        for (int p = 1; p <= last; p++) {
+            x.copy(p - 1, p, 1);
+        }
+        return x;
     }
 
     /** All that can be asked without a change. */

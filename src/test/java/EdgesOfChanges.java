@@ -1,7 +1,5 @@
 /** The edges that promises 51 to 65 name: changes, and what undoes them. */
 final class EdgesOfChanges extends Edges {
-    private static final String EIGHT = "memory 8 band 2 limit 8 policy 0;put 0 1 2 3 4 5 6 7 8";
-    private static final String NINETY_SIX = "memory 96 band 1 limit 96 policy 0";
 
     static void run() {
         copy();
@@ -111,8 +109,8 @@ final class EdgesOfChanges extends Edges {
         needsMemory(y -> y.fill(0, 0, 0));
         needsPlace((y, place) -> y.fill(place, 6, 0));
         refusesPlaces((y, place) -> y.fill(0, place, 0));
-        says("Throws `IllegalArgumentException` if last is less than first, value is out of range, or one of the places is"
-                + " locked");
+        says("Throws `IllegalArgumentException` if last is less than first, value is out of range, or one of the places"
+                + " is locked");
         refuses(ARGUMENT, y -> y.fill(1, 0, 0));
         refuses(ARGUMENT, y -> y.fill(6, 5, 0));
         for (int value : new int[] {-1, 256, LEAST, MOST}) {
@@ -252,10 +250,7 @@ final class EdgesOfChanges extends Edges {
         says("- `ticks`: 1 to 100");
         gives(3, y -> y.tick(100));
         due(Check.loaded(EIGHT).tick(100), 0);
-        CopyDebts most = Check.loaded(NINETY_SIX);
-        for (int p = 1; p < 96; p++) {
-            most.copy(p - 1, p, 1);
-        }
+        CopyDebts most = chain(NINETY_SIX, 95);
         due(most.tick(94), 94);
         due(most.tick(1), 1);
         needsMemory(y -> y.tick(1));
@@ -307,10 +302,7 @@ final class EdgesOfChanges extends Edges {
         isAChange(y -> y.shorten(2));
         says("Returns how many hops it has less then.");
         gives(0, y -> y.shorten(4));
-        CopyDebts most = Check.loaded(NINETY_SIX);
-        for (int p = 1; p < 96; p++) {
-            most.copy(p - 1, p, 1);
-        }
+        CopyDebts most = chain(NINETY_SIX, 95);
         due(most.shorten(95), 94);
         due(most.hops(95), 1);
         due(most.shorten(95), 0);

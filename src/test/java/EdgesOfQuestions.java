@@ -2,8 +2,6 @@ import java.math.BigInteger;
 
 /** The edges that promises 7 to 32 and 43 to 50 name: what is told of places, debts, values, accounts and events. */
 final class EdgesOfQuestions extends Edges {
-    private static final String EIGHT = "memory 8 band 2 limit 8 policy 0;put 0 1 2 3 4 5 6 7 8";
-    private static final String NINETY_SIX = "memory 96 band 20 limit 96 policy 0";
 
     static void run() {
         size();
@@ -38,13 +36,9 @@ final class EdgesOfQuestions extends Edges {
         textByte();
     }
 
-    /** 1 owes to 0, 2 to 1, and so on. */
-    private static CopyDebts chain(int places) {
-        CopyDebts x = Check.loaded(NINETY_SIX + ";put 0 255");
-        for (int p = 1; p <= places; p++) {
-            x.copy(p - 1, p, 1);
-        }
-        return x;
+    /** The longest chain, with the value 255. */
+    private static CopyDebts longest() {
+        return chain(NINETY_SIX + ";put 0 255", 95);
     }
 
     // ---- places
@@ -115,7 +109,7 @@ final class EdgesOfQuestions extends Edges {
         says("Returns number of the source; NONE if the place does not owe.");
         gives(-1, x -> x.source(0));
         gives(-1, x -> x.source(7));
-        due(chain(95).source(95), 94);
+        due(longest().source(95), 94);
         needsMemory(x -> x.source(0));
         needsPlace(CopyDebts::source);
         order(STATE, INDEX, x -> x.source(-1));
@@ -126,7 +120,7 @@ final class EdgesOfQuestions extends Edges {
         says("Returns number of the promise; NONE if the place does not owe.");
         gives(-1, x -> x.promise(0));
         gives(-1, x -> x.promise(7));
-        due(chain(95).promise(95), 94);
+        due(longest().promise(95), 94);
         needsMemory(x -> x.promise(0));
         needsPlace(CopyDebts::promise);
         order(STATE, INDEX, x -> x.promise(-1));
@@ -139,7 +133,7 @@ final class EdgesOfQuestions extends Edges {
         gives(1, x -> x.hops(4));
         gives(2, x -> x.hops(2));
         gives(0, x -> x.hops(7));
-        due(chain(95).hops(95), 95);
+        due(longest().hops(95), 95);
         needsMemory(x -> x.hops(0));
         needsPlace(CopyDebts::hops);
         order(STATE, INDEX, x -> x.hops(-1));
@@ -148,7 +142,7 @@ final class EdgesOfQuestions extends Edges {
         gives(0, x -> x.root(0));
         gives(0, x -> x.root(2));
         gives(7, x -> x.root(7));
-        due(chain(95).root(95), 0);
+        due(longest().root(95), 0);
         needsMemory(x -> x.root(0));
         needsPlace(CopyDebts::root);
         order(STATE, INDEX, x -> x.root(-1));
@@ -174,14 +168,13 @@ final class EdgesOfQuestions extends Edges {
         gives(0, x -> x.dependents(2, false));
         gives(0, x -> x.dependents(2, true));
         gives(0, x -> x.dependents(7, true));
-        due(chain(95).dependents(0, true), 95);
-        due(chain(95).dependents(0, false), 1);
-        due(chain(95).dependents(94, true), 1);
-        due(chain(95).dependents(95, true), 0);
-        CopyDebts all = Check.loaded(NINETY_SIX + ";short");
-        for (int p = 1; p < 96; p++) {
-            all.copy(p - 1, p, 1);
-        }
+        due(longest().dependents(0, true), 95);
+        due(longest().dependents(0, false), 1);
+        due(longest().dependents(94, true), 1);
+        due(longest().dependents(95, true), 0);
+        CopyDebts all = chain(NINETY_SIX + ";short", 95);
+        due(Check.loaded(EIGHT + ";copy 7 0 1").dependents(7, false), 1);
+        due(Check.loaded(EIGHT + ";copy 7 0 1").dependents(7, true), 1);
         due(all.dependents(0, false), 95);
         due(all.dependents(0, true), 95);
         needsMemory(x -> x.dependents(0, true));
@@ -197,7 +190,9 @@ final class EdgesOfQuestions extends Edges {
         says("Returns the number of places that owe.");
         gives(3, CopyDebts::owed);
         due(Check.loaded(EIGHT).owed(), 0);
-        due(chain(95).owed(), 95);
+        due(Check.loaded(EIGHT + ";copy 7 0 1").owed(), 1);
+        due(Check.loaded(EIGHT + ";copy 0 7 1").owed(), 1);
+        due(longest().owed(), 95);
         needsMemory(CopyDebts::owed);
     }
 
@@ -212,7 +207,9 @@ final class EdgesOfQuestions extends Edges {
         gives(2, x -> x.owedIn(4, 5));
         gives(0, x -> x.owedIn(7, 7));
         gives(0, x -> x.owedIn(0, 0));
-        due(chain(95).owedIn(0, 95), 95);
+        due(longest().owedIn(0, 95), 95);
+        due(Check.loaded(EIGHT + ";copy 7 0 1").owedIn(0, 0), 1);
+        due(Check.loaded(EIGHT + ";copy 0 7 1").owedIn(7, 7), 1);
         needsMemory(x -> x.owedIn(0, 0));
         needsPlace((x, place) -> x.owedIn(place, 7));
         refusesPlaces((x, place) -> x.owedIn(0, place));
@@ -237,7 +234,7 @@ final class EdgesOfQuestions extends Edges {
         gives(-1, x -> x.firstOwed(6));
         gives(-1, x -> x.firstOwed(7));
         due(Check.loaded(EIGHT).firstOwed(0), -1);
-        due(chain(95).firstOwed(95), 95);
+        due(longest().firstOwed(95), 95);
         due(Check.loaded(EIGHT + ";copy 7 0 1").firstOwed(0), 0);
         due(Check.loaded(EIGHT + ";copy 7 0 1").firstOwed(1), -1);
         needsMemory(x -> x.firstOwed(0));
@@ -248,8 +245,8 @@ final class EdgesOfQuestions extends Edges {
     private static void debts() {
         at("Promise 20");
         says("Returns the number of debts: a debt is a row of places that owe by the same promise, each (but the first)"
-                + " one behind the one ahead of it, whose sources are likewise each one behind the other, and that is as"
-                + " long as it can be.");
+                + " one behind the one ahead of it, whose sources are likewise each one behind the other, and that is"
+                + " as long as it can be.");
         due(Check.loaded(EIGHT).debts(), 0);
         gives(2, CopyDebts::debts);
         due(Check.loaded(EIGHT + ";copy 4 0 4").debts(), 1);
@@ -268,7 +265,7 @@ final class EdgesOfQuestions extends Edges {
         CopyDebts down = Check.loaded(EIGHT + ";copy 1 2 1;copy 0 3 1;short;copy 2 6 2");
         due(Check.sources(down), "- - 1 0 - - 1 0");
         due(down.debts(), 4);
-        due(chain(95).debts(), 95);
+        due(longest().debts(), 95);
         needsMemory(CopyDebts::debts);
     }
 
@@ -285,8 +282,8 @@ final class EdgesOfQuestions extends Edges {
                 gives(due[k][what], x -> x.debt(debt, part));
             }
         }
-        due(chain(95).debt(94, 0), 95);
-        due(chain(95).debt(94, 3), 94);
+        due(longest().debt(94, 0), 95);
+        due(longest().debt(94, 3), 94);
         CopyDebts whole = Check.loaded(EIGHT + ";copy 4 0 4");
         due(whole.debt(0, 2), 4);
         due(Check.loaded(EIGHT + ";copy 0 4 4").debt(0, 2), 4);
@@ -296,7 +293,7 @@ final class EdgesOfQuestions extends Edges {
             refuses(INDEX, x -> x.debt(k, 0));
         }
         due(thrownBy(Check.loaded(EIGHT), x -> x.debt(0, 0)), "IndexOutOfBoundsException");
-        due(thrownBy(chain(95), x -> x.debt(95, 0)), "IndexOutOfBoundsException");
+        due(thrownBy(longest(), x -> x.debt(95, 0)), "IndexOutOfBoundsException");
         says("Throws `IllegalArgumentException` if what is out of range");
         for (int what : new int[] {-1, 4, LEAST, MOST}) {
             refuses(ARGUMENT, x -> x.debt(1, what));
@@ -314,12 +311,12 @@ final class EdgesOfQuestions extends Edges {
         due(Check.loaded(EIGHT).most(), 0);
         due(Check.loaded(EIGHT + ";copy 0 7 1").most(), 1);
         due(Check.loaded(EIGHT + ";copy 7 0 1").most(), 1);
-        due(chain(95).most(), 95);
+        due(longest().most(), 95);
         needsMemory(CopyDebts::most);
         at("Promise 23");
         says("Finds the place with the most hops.");
         gives(2, CopyDebts::deepest);
-        due(chain(95).deepest(), 95);
+        due(longest().deepest(), 95);
         says("Returns its number, of several the smallest one; NONE if no place owes.");
         due(Check.loaded(EIGHT + ";copy 0 5 3").deepest(), 5);
         due(Check.loaded(EIGHT + ";copy 1 7 1;copy 7 6 1;copy 7 3 1;copy 1 2 1").deepest(), 3);
@@ -333,8 +330,8 @@ final class EdgesOfQuestions extends Edges {
         says("Returns how many hops lead from a place to another one that it depends on.");
         gives(1, x -> x.distance(2, 4));
         gives(2, x -> x.distance(2, 0));
-        due(chain(95).distance(95, 0), 95);
-        due(chain(95).distance(95, 1), 94);
+        due(longest().distance(95, 0), 95);
+        due(longest().distance(95, 1), 94);
         says("Returns the number; 0 if both are the same; NONE if place does not depend on other.");
         gives(0, x -> x.distance(0, 0));
         gives(0, x -> x.distance(2, 2));
@@ -369,7 +366,7 @@ final class EdgesOfQuestions extends Edges {
         due(Check.loaded(EIGHT).creditors(), 0);
         due(Check.loaded(EIGHT + ";copy 0 5 1;copy 0 6 1;copy 0 7 1").creditors(), 1);
         due(Check.loaded(EIGHT + ";copy 7 0 1").creditors(), 1);
-        due(chain(95).creditors(), 95);
+        due(longest().creditors(), 95);
         needsMemory(CopyDebts::creditors);
     }
 
@@ -377,7 +374,7 @@ final class EdgesOfQuestions extends Edges {
         at("Promise 27");
         says("Returns the next place (section 4).");
         gives(4, CopyDebts::next);
-        due(chain(95).next(), 1);
+        due(longest().next(), 1);
         says("Returns its number; NONE if no place owes.");
         for (int policy = 0; policy < 4; policy++) {
             due(Check.loaded("memory 8 band 1 limit 8 policy " + policy).next(), -1);
@@ -394,7 +391,7 @@ final class EdgesOfQuestions extends Edges {
         due(Check.loaded(EIGHT).stale(), 0);
         due(Check.loaded(EIGHT + ";put 7 1;copy 0 7 1").stale(), 0);
         due(Check.loaded(EIGHT + ";copy 7 0 1").stale(), 1);
-        due(chain(95).stale(), 95);
+        due(longest().stale(), 95);
         needsMemory(CopyDebts::stale);
     }
 
@@ -469,6 +466,7 @@ final class EdgesOfQuestions extends Edges {
         due(Check.loaded(NINETY_SIX).same(0, 48, 48), true);
         due(Check.loaded(NINETY_SIX + ";put 95 1").same(0, 48, 48), false);
         due(Check.loaded(NINETY_SIX + ";put 0 1").same(0, 48, 48), false);
+        due(Check.loaded(NINETY_SIX).same(95, 0, 1), true);
         needsMemory(x -> x.same(0, 0, 1));
         says("Throws `IndexOutOfBoundsException` if first or second is no place");
         refusesPlaces((x, place) -> x.same(place, 0, 1));
@@ -483,6 +481,9 @@ final class EdgesOfQuestions extends Edges {
         refuses(ARGUMENT, x -> x.same(0, 7, 2));
         refuses(ARGUMENT, x -> x.same(7, 7, MOST));
         refuses(ARGUMENT, x -> x.same(1, 0, MOST));
+        due(thrownBy(Check.loaded(NINETY_SIX), x -> x.same(95, 0, 2)), "IllegalArgumentException");
+        due(thrownBy(Check.loaded(NINETY_SIX), x -> x.same(0, 95, 2)), "IllegalArgumentException");
+        due(thrownBy(Check.loaded(NINETY_SIX), x -> x.same(0, 0, 97)), "IllegalArgumentException");
         order(STATE, INDEX, x -> x.same(-1, 0, 1));
         order(STATE, ARGUMENT, x -> x.same(0, 0, 0));
         order(INDEX, ARGUMENT, x -> x.same(SIZE, 0, 0));
@@ -492,8 +493,8 @@ final class EdgesOfQuestions extends Edges {
 
     private static void checksum() {
         at("Promise 32");
-        says("Returns a checksum of all values: from 17 on, it becomes 31 times itself plus the value, for all places by"
-                + " ascending numbers (it wraps).");
+        says("Returns a checksum of all values: from 17 on, it becomes 31 times itself plus the value, for all places"
+                + " by ascending numbers (it wraps).");
         due(Check.loaded("memory 1 band 1 limit 0 policy 0").checksum(), 527);
         due(Check.loaded("memory 1 band 1 limit 0 policy 0;put 0 255").checksum(), 782);
         // Of values, not of bytes.
@@ -515,8 +516,8 @@ final class EdgesOfQuestions extends Edges {
     private static void account() {
         at("Promise 43");
         says("Returns an account.");
-        says("- `what`: 0 promises, 1 the sum of their LENGTHS, 2 idle payments, 3 forced payments, 4 payments at once, 5"
-                + " places that were dropped, 6 hops of fetches, 7 what all payments cost, 8 fetches");
+        says("- `what`: 0 promises, 1 the sum of their LENGTHS, 2 idle payments, 3 forced payments, 4 payments at once,"
+                + " 5 places that were dropped, 6 hops of fetches, 7 what all payments cost, 8 fetches");
         CopyDebts x = Check.loaded(EIGHT);
         due(Check.accounts(x), "0 0 0 0 0 0 0 0 0");
         x.copy(0, 3, 5);
@@ -542,8 +543,8 @@ final class EdgesOfQuestions extends Edges {
 
     private static void meanHops() {
         at("Promise 44");
-        says("Returns the number of hops of fetches, converted to a double, divided by the number of fetches, converted to"
-                + " a double.");
+        says("Returns the number of hops of fetches, converted to a double, divided by the number of fetches, converted"
+                + " to a double.");
         CopyDebts x = Check.loaded(EIGHT + ";copy 0 3 1;copy 3 5 1");
         x.fetch(5);
         due(x.meanHops(), 2.0);
@@ -566,8 +567,8 @@ final class EdgesOfQuestions extends Edges {
 
     private static void idleShare() {
         at("Promise 45");
-        says("Returns the number of idle payments, converted to a float, divided by the number of all payments, converted"
-                + " to a float.");
+        says("Returns the number of idle payments, converted to a float, divided by the number of all payments,"
+                + " converted to a float.");
         CopyDebts x = Check.loaded(EIGHT + ";copy 0 3 2");
         x.tick(1);
         due(x.idleShare(), 1.0f);
@@ -654,7 +655,7 @@ final class EdgesOfQuestions extends Edges {
         due(one.writeDebts(), 5);
         due(wide.writeDebts(), 37);
         // The longest text: 95 debts.
-        CopyDebts most = chain(95);
+        CopyDebts most = longest();
         due(most.writeDebts(), 181 + 95 + 95 + 180 + 95 + 94);
         due(textOf(most, 740).substring(0, 12), "1x1<0,2x1<1,");
         due(textOf(most, 740).substring(732), ",95x1<94");
@@ -663,24 +664,25 @@ final class EdgesOfQuestions extends Edges {
 
     private static void writeChain() {
         at("Promise 49");
-        says("Writes the chain of a place as a text that replaces the text that was written before: its number, then for"
-                + " each hop a less-than sign and the number of the source, then an equals sign and the value.");
+        says("Writes the chain of a place as a text that replaces the text that was written before: its number, then"
+                + " for each hop a less-than sign and the number of the source, then an equals sign and the value.");
         CopyDebts x = fixture();
         due(textOf(x, x.writeChain(4)), "4<0=10");
         due(textOf(x, x.writeChain(2)), "2<4<0=10");
         due(textOf(x, x.writeChain(7)), "7=80");
         says("Numbers have no leading zeros.");
-        CopyDebts zeros = Check.loaded(NINETY_SIX + ";put 9 9 10 99 100 255");
+        CopyDebts zeros = Check.loaded(NINETY_SIX + ";put 9 9 10 99 100 255 199");
         due(textOf(zeros, zeros.writeChain(0)), "0=0");
         due(textOf(zeros, zeros.writeChain(9)), "9=9");
         due(textOf(zeros, zeros.writeChain(10)), "10=10");
         due(textOf(zeros, zeros.writeChain(11)), "11=99");
         due(textOf(zeros, zeros.writeChain(12)), "12=100");
         due(textOf(zeros, zeros.writeChain(13)), "13=255");
+        due(textOf(zeros, zeros.writeChain(14)), "14=199");
         says("Returns the number of bytes of the text.");
         due(zeros.writeChain(0), 3);
         due(zeros.writeChain(13), 6);
-        CopyDebts most = chain(95);
+        CopyDebts most = longest();
         due(most.writeChain(95), 182 + 95 + 4);
         due(textOf(most, 281).substring(0, 9), "95<94<93<");
         due(textOf(most, 281).substring(272), "2<1<0=255");
@@ -691,8 +693,8 @@ final class EdgesOfQuestions extends Edges {
 
     private static void textByte() {
         at("Promise 50");
-        says("Returns a byte of the text that was written last (it stays until the next text, also behind load, undo and"
-                + " restore).");
+        says("Returns a byte of the text that was written last (it stays until the next text, also behind load, undo"
+                + " and restore).");
         CopyDebts x = fixture();
         x.undo();
         due(textOf(x, 8), "2<4<0=10");
@@ -719,13 +721,5 @@ final class EdgesOfQuestions extends Edges {
             due(thrownBy(new CopyDebts(), y -> y.textByte(i)), "IndexOutOfBoundsException");
             due(thrownBy(Check.loaded(TEXT), y -> y.textByte(i)), "IndexOutOfBoundsException");
         }
-        due(thrownBy(most(), y -> y.textByte(740)), "IndexOutOfBoundsException");
-        due(most().textByte(739), (int) '4');
-    }
-
-    private static CopyDebts most() {
-        CopyDebts x = chain(95);
-        x.writeDebts();
-        return x;
     }
 }

@@ -3,8 +3,6 @@ import java.util.List;
 
 /** The edges that sections 1 to 5 and 7 of the document name. */
 final class EdgesOfSections extends Edges {
-    private static final String EIGHT = "memory 8 band 2 limit 8 policy 0;put 0 1 2 3 4 5 6 7 8";
-    private static final String NINETY_SIX = "memory 96 band 1 limit 96 policy 0";
 
     static void run() {
         whatItIs();
@@ -102,10 +100,7 @@ final class EdgesOfSections extends Edges {
 
     private static void chainsOfPlaces() {
         at("Section 1");
-        CopyDebts x = Check.loaded(NINETY_SIX + ";put 0 255");
-        for (int p = 0; p < 95; p++) {
-            x.copy(p, p + 1, 1);
-        }
+        CopyDebts x = chain(NINETY_SIX + ";put 0 255", 95);
         says("The value of a place is its byte if it does not owe, and otherwise the value of its source.");
         due(x.value(0), 255);
         due(x.value(1), 255);
@@ -225,8 +220,8 @@ final class EdgesOfSections extends Edges {
 
     private static void targetsThatAreSources() {
         at("Section 2");
-        says("(b) Each target place TO + i whose place FROM + i is a target place gets the value that FROM + i had ahead"
-                + " of the copy, as its byte, at once, and owes nothing;");
+        says("(b) Each target place TO + i whose place FROM + i is a target place gets the value that FROM + i had"
+                + " ahead of the copy, as its byte, at once, and owes nothing;");
         CopyDebts up = Check.loaded(EIGHT);
         up.copy(2, 3, 3);
         due(Check.events(up, 0), "0:3:3 3:4:4 3:5:5");
@@ -253,6 +248,14 @@ final class EdgesOfSections extends Edges {
         owing.copy(3, 4, 2);
         due(Check.events(owing, 2), "0:4:2 4:4:1 3:5:1");
         due(Check.sources(owing), "- - - 0 3 - - -");
+        // The longest rows, one place up and one place down.
+        CopyDebts longest = Check.loaded(NINETY_SIX + ";put 0 5;put 95 6");
+        longest.copy(0, 1, 95);
+        due(longest.owed() + " " + longest.source(1) + " " + longest.account(4), "1 0 94");
+        due(longest.value(95), 0);
+        longest.copy(1, 0, 95);
+        due(longest.owed() + " " + longest.source(94) + " " + longest.account(4), "1 95 188");
+        due(longest.value(0), 5);
         says("it is a payment at once even if its byte stays the same.");
         CopyDebts same = Check.loaded(EIGHT);
         same.copy(5, 5, 2);
@@ -334,17 +337,10 @@ final class EdgesOfSections extends Edges {
         CopyDebts deep = Check.loaded(EIGHT.replace("limit 8 policy 0", "limit 1 policy 2") + ";copy 0 6 1");
         deep.copy(6, 7, 1);
         due(Check.events(deep, 1), "0:7:1 2:7:1");
-        CopyDebts most = Check.loaded("memory 96 band 1 limit 95 policy 0");
-        most.copy(0, 1, 1);
-        for (int p = 2; p < 96; p++) {
-            most.copy(p - 1, p, 1);
-        }
+        CopyDebts most = chain("memory 96 band 1 limit 95 policy 0", 95);
         due(most.owed(), 95);
         due(most.account(3), 0);
-        CopyDebts less = Check.loaded("memory 96 band 1 limit 94 policy 0");
-        for (int p = 1; p < 95; p++) {
-            less.copy(p - 1, p, 1);
-        }
+        CopyDebts less = chain("memory 96 band 1 limit 94 policy 0", 94);
         due(less.owed(), 94);
         due(less.account(3), 0);
         less.copy(94, 95, 1);
@@ -507,7 +503,7 @@ final class EdgesOfSections extends Edges {
             y.setSetting(2, policy);
             due(y.next(), 5);
         }
-        // Of two with the same promise, and of two with the same hops, the one far behind comes second.
+        // Neither the promise nor the place of the source matters to places with as many hops.
         CopyDebts z = Check.loaded(EIGHT + ";copy 1 7 1;copy 1 2 1;copy 7 3 1;copy 2 6 1");
         z.setSetting(2, 2);
         due(z.next(), 3);
@@ -518,6 +514,20 @@ final class EdgesOfSections extends Edges {
             z.setSetting(2, policy);
             due(z.next(), -1);
         }
+        // The first place is like the others, with many hops and behind its payment, without any.
+        CopyDebts first = Check.loaded(EIGHT + ";copy 7 6 1;copy 6 0 1;copy 5 4 1");
+        first.setSetting(2, 3);
+        due(first.next(), 4);
+        first.setSetting(2, 2);
+        due(first.next(), 0);
+        first.payRange(0, 6);
+        first.copy(0, 5, 1);
+        first.copy(2, 3, 1);
+        due(first.next(), 3);
+        first.copy(5, 0, 1);
+        first.copy(6, 7, 1);
+        first.copy(7, 0, 1);
+        due(first.next(), 0);
     }
 
     private static void theBand() {
@@ -549,9 +559,9 @@ final class EdgesOfSections extends Edges {
         due(x.event(0, 0), 0);
         due(x.event(0, 1), 5);
         due(x.event(0, 2), 3);
-        says("Kinds: 0: a promise (its TO and LENGTH); 1: an idle payment; 2: a forced payment; 3: a payment at once; 4:"
-                + " a place is dropped; in the kinds 1 to 3 the number is the byte of the place then, in the kind 4 the"
-                + " number of the promise by which it owed.");
+        says("Kinds: 0: a promise (its TO and LENGTH); 1: an idle payment; 2: a forced payment; 3: a payment at once;"
+                + " 4: a place is dropped; in the kinds 1 to 3 the number is the byte of the place then, in the kind 4"
+                + " the number of the promise by which it owed.");
         x.tick(1);
         due(Check.events(x, 1), "1:5:3 1:6:4");
         x.write(4, 9);
@@ -642,8 +652,8 @@ final class EdgesOfSections extends Edges {
         due(thrownBy(new CopyDebts(), x -> x.fill(-1, -2, 256)), "IllegalStateException");
         refuses(INDEX, x -> x.fill(SIZE, -2, 256));
         refuses(ARGUMENT, x -> x.fill(7, 6, 256));
-        says("A call of a method that throws an exception changes nothing, except that load empties the input buffer and"
-                + " sets parseError() and errorPosition().");
+        says("A call of a method that throws an exception changes nothing, except that load empties the input buffer"
+                + " and sets parseError() and errorPosition().");
         CopyDebts y = fixture();
         String state = Check.state(y);
         due(thrownBy(y, x -> x.load(20)), "IllegalArgumentException");
@@ -750,9 +760,10 @@ final class EdgesOfSections extends Edges {
     private static void whatIf() {
         at("Section 7");
         says("What-if questions change nothing.");
-        List<Call> questions = List.of(x -> x.whyCopy(0, 1, 6), x -> x.forcedByCopy(0, 1, 6), x -> x.owedIfCopy(0, 1, 6),
-                x -> x.costOfCopy(0, 1, 6), x -> x.forcedByWrite(0), x -> x.forcedByFill(0, 3), CopyDebts::ticksToClear,
-                x -> x.owedAfter(1), x -> x.paidIn(2), CopyDebts::bestPolicy);
+        List<Call> questions = List.of(x -> x.whyCopy(0, 1, 6), x -> x.forcedByCopy(0, 1, 6),
+                x -> x.owedIfCopy(0, 1, 6), x -> x.costOfCopy(0, 1, 6), x -> x.forcedByWrite(0),
+                x -> x.forcedByFill(0, 3), CopyDebts::ticksToClear, x -> x.owedAfter(1), x -> x.paidIn(2),
+                CopyDebts::bestPolicy);
         for (Call question : questions) {
             CopyDebts x = fixture();
             String before = whole(x);

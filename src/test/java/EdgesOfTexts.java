@@ -2,6 +2,8 @@
 final class EdgesOfTexts extends Edges {
     /** 32 bytes. */
     private static final String HEAD = "memory 6 band 2 limit 4 policy 1";
+    /** 33 bytes. */
+    private static final String LARGEST = "memory 96 band 2 limit 4 policy 1";
 
     static void run() {
         aNewObject();
@@ -44,10 +46,6 @@ final class EdgesOfTexts extends Edges {
         due(text + ": " + thrownBy(x, y -> Check.load(y, text)), text + ": IllegalArgumentException");
         due(text + ": " + x.parseError() + " at " + x.errorPosition(), text + ": " + code + " at " + position);
         due(x.size(), 0);
-    }
-
-    private static CopyDebts loaded(String text) {
-        return Check.loaded(text);
     }
 
     private static String locks(CopyDebts x) {
@@ -179,8 +177,8 @@ final class EdgesOfTexts extends Edges {
 
     private static void loadOfARightText() {
         at("Promise 3");
-        says("On success the memory replaces the previous one; what its lines do counts in the accounts and events, which"
-                + " are new, nothing can be undone, and no state is saved.");
+        says("On success the memory replaces the previous one; what its lines do counts in the accounts and events,"
+                + " which are new, nothing can be undone, and no state is saved.");
         CopyDebts x = fixture();
         x.save(1);
         x.fetch(2);
@@ -192,6 +190,8 @@ final class EdgesOfTexts extends Edges {
         due(thrownBy(x, CopyDebts::undo), "IllegalStateException");
         due(thrownBy(x, y -> y.restore(0)), "IllegalStateException");
         due(thrownBy(x, y -> y.restore(1)), "IllegalStateException");
+        // Nothing of a text is left in the next one.
+        due(Check.load(x, HEAD + ";short;settle;copy 0 1 1;lock 0 5"), 6);
         due(Check.load(x, HEAD), 6);
         due(Check.state(x), "2 4 1 0 0 ......|0 0 0 0 0 0|- - - - - -|- - - - - -|0 0 0 0 0 0 0 0 0|");
         due(x.copy(0, 1, 1), 0);
@@ -199,8 +199,8 @@ final class EdgesOfTexts extends Edges {
 
     private static void loadOfWrongNumbers() {
         at("Promise 3");
-        says("Throws `IndexOutOfBoundsException` if n is negative or greater than the number of bytes in the buffer; the"
-                + " buffer, parseError() and errorPosition() stay");
+        says("Throws `IndexOutOfBoundsException` if n is negative or greater than the number of bytes in the buffer;"
+                + " the buffer, parseError() and errorPosition() stay");
         for (int n : new int[] {-1, 21, LEAST, MOST, 700, 701}) {
             refuses(INDEX, x -> x.load(n));
         }
@@ -305,14 +305,14 @@ final class EdgesOfTexts extends Edges {
         error("memory 5 band 1 limit 1 policy 999", 2, 31);
         error("memory 999", 2, 7);
         error("memory 1000", 1, 7);
-        due(loaded("memory 096 band 1 limit 096 policy 0").size(), 96);
+        due(Check.loaded("memory 096 band 1 limit 096 policy 0").size(), 96);
         error(HEAD + ";short;;settle", 1, 39);
     }
 
     private static void blanks() {
         at("Section 6");
         says("Blanks (byte 32) only separate tokens.");
-        CopyDebts x = loaded("   memory  6   band 2 limit 4 policy 1  ;  put  0 1  2 ; short   ");
+        CopyDebts x = Check.loaded("   memory  6   band 2 limit 4 policy 1  ;  put  0 1  2 ; short   ");
         due(Check.state(x), "2 4 1 1 0 ......|1 2 0 0 0 0|- - - - - -|- - - - - -|0 0 0 0 0 0 0 0 0|");
         error("mem ory 6", 1, 0);
         error("memory 9 6 band", 1, 9);
@@ -327,7 +327,7 @@ final class EdgesOfTexts extends Edges {
     private static void runsOfSigns() {
         at("Section 6");
         says("A run of letters ends at the first byte that is not a lower-case letter;");
-        due(loaded("memory6band2limit4policy1;put0 7;lock0 0;copy0 1 1;fill2 3 4;short;settle").size(), 6);
+        due(Check.loaded("memory6band2limit4policy1;put0 7;lock0 0;copy0 1 1;fill2 3 4;short;settle").size(), 6);
         error("memory`6", 1, 6);
         error("memory{6", 1, 6);
         error("memoryY 6", 1, 6);
@@ -340,10 +340,11 @@ final class EdgesOfTexts extends Edges {
         error("memory 6:", 1, 8);
         error("memory 6bandband", 1, 8);
         error("memory 6-", 1, 8);
-        due(loaded("memory 9band 9limit 9policy 0").size(), 9);
-        due(Check.stored(loaded("memory 3 band 1 limit 1 policy 0;put 0 90 09")), "90 9 0");
+        due(Check.loaded("memory 9band 9limit 9policy 0").size(), 9);
+        due(Check.stored(Check.loaded("memory 3 band 1 limit 1 policy 0;put 0 90 09")), "90 9 0");
         says("leading zeros do not matter.");
-        CopyDebts x = loaded("memory 006 band 02 limit 000 policy 003;put 005 007;put 00 000;fill 01 002 010;lock 03 03");
+        CopyDebts x = Check.loaded("memory 006 band 02 limit 000 policy 003;put 005 007;put 00 000;fill 01 002 010"
+                + ";lock 03 03");
         due(Check.state(x), "2 0 3 0 0 ...L..|0 10 10 0 0 7|- - - - - -|- - - - - -|0 0 0 0 0 0 0 0 0|");
         error("memory 000", 2, 7);
         error("memory 097", 2, 7);
@@ -355,7 +356,7 @@ final class EdgesOfTexts extends Edges {
         at("Section 6");
         says("The grammar, with literals in quotes:");
         says("text = \"memory\" SIZE \"band\" BAND \"limit\" LIMIT \"policy\" POLICY {\";\" line}");
-        due(Check.state(loaded(HEAD)), "2 4 1 0 0 ......|0 0 0 0 0 0|- - - - - -|- - - - - -|0 0 0 0 0 0 0 0 0|");
+        due(Check.state(Check.loaded(HEAD)), "2 4 1 0 0 ......|0 0 0 0 0 0|- - - - - -|- - - - - -|0 0 0 0 0 0 0 0 0|");
         error("", 1, 0);
         error("band 2 memory 6 limit 4 policy 1", 1, 0);
         error("memory 6 limit 4 band 2 policy 1", 1, 9);
@@ -368,25 +369,25 @@ final class EdgesOfTexts extends Edges {
         error(HEAD + ";;short", 1, 33);
         error(HEAD + ";short;", 1, 39);
         says("line = \"put\" PLACE BYTE {BYTE}");
-        due(Check.stored(loaded(HEAD + ";put 2 3")), "0 0 3 0 0 0");
-        due(Check.stored(loaded(HEAD + ";put 2 3 4 5 6")), "0 0 3 4 5 6");
+        due(Check.stored(Check.loaded(HEAD + ";put 2 3")), "0 0 3 0 0 0");
+        due(Check.stored(Check.loaded(HEAD + ";put 2 3 4 5 6")), "0 0 3 4 5 6");
         error(HEAD + ";put 2", 1, 38);
         error(HEAD + ";put 2;", 1, 38);
         error(HEAD + ";put 2 3 put 2 3", 1, 41);
         says("line = \"lock\" PLACE PLACE");
-        due(locks(loaded(HEAD + ";lock 2 3")), "..LL..");
+        due(locks(Check.loaded(HEAD + ";lock 2 3")), "..LL..");
         error(HEAD + ";lock 2 3 4", 1, 42);
         says("line = \"copy\" PLACE PLACE LENGTH");
-        due(Check.sources(loaded(HEAD + ";copy 2 4 1")), "- - - - 2 -");
+        due(Check.sources(Check.loaded(HEAD + ";copy 2 4 1")), "- - - - 2 -");
         error(HEAD + ";copy 2 4 1 1", 1, 44);
         says("line = \"fill\" PLACE PLACE BYTE");
-        due(Check.stored(loaded(HEAD + ";fill 2 4 1")), "0 0 1 1 1 0");
+        due(Check.stored(Check.loaded(HEAD + ";fill 2 4 1")), "0 0 1 1 1 0");
         error(HEAD + ";fill 2 4 1 1", 1, 44);
         says("line = \"short\"");
-        due(loaded(HEAD + ";short").setting(3), 1);
+        due(Check.loaded(HEAD + ";short").setting(3), 1);
         error(HEAD + ";short 1", 1, 39);
         says("line = \"settle\"");
-        due(loaded(HEAD + ";settle").setting(4), 1);
+        due(Check.loaded(HEAD + ";settle").setting(4), 1);
         error(HEAD + ";settle 1", 1, 40);
     }
 
@@ -395,22 +396,22 @@ final class EdgesOfTexts extends Edges {
         says("SIZE is 1 to 96,");
         error("memory 0 band 1 limit 0 policy 0", 2, 7);
         error("memory 97 band 1 limit 0 policy 0", 2, 7);
-        due(loaded("memory 1 band 1 limit 0 policy 0").size(), 1);
-        due(loaded("memory 96 band 1 limit 0 policy 0").size(), 96);
+        due(Check.loaded("memory 1 band 1 limit 0 policy 0").size(), 1);
+        due(Check.loaded("memory 96 band 1 limit 0 policy 0").size(), 96);
         says("BAND 1 to 20,");
         error("memory 1 band 0 limit 0 policy 0", 2, 14);
         error("memory 1 band 21 limit 0 policy 0", 2, 14);
-        due(loaded("memory 1 band 1 limit 0 policy 0").setting(0), 1);
-        due(loaded("memory 1 band 20 limit 0 policy 0").setting(0), 20);
+        due(Check.loaded("memory 1 band 1 limit 0 policy 0").setting(0), 1);
+        due(Check.loaded("memory 1 band 20 limit 0 policy 0").setting(0), 20);
         says("LIMIT 0 to 96,");
         error("memory 1 band 1 limit 97 policy 0", 2, 22);
-        due(loaded("memory 1 band 1 limit 0 policy 0").setting(1), 0);
+        due(Check.loaded("memory 1 band 1 limit 0 policy 0").setting(1), 0);
         // LIMIT may be greater than SIZE.
-        due(loaded("memory 1 band 1 limit 96 policy 0").setting(1), 96);
+        due(Check.loaded("memory 1 band 1 limit 96 policy 0").setting(1), 96);
         says("POLICY 0 to 3,");
         error("memory 1 band 1 limit 0 policy 4", 2, 31);
-        due(loaded("memory 1 band 1 limit 0 policy 0").setting(2), 0);
-        due(loaded("memory 1 band 1 limit 0 policy 3").setting(2), 3);
+        due(Check.loaded("memory 1 band 1 limit 0 policy 0").setting(2), 0);
+        due(Check.loaded("memory 1 band 1 limit 0 policy 3").setting(2), 3);
     }
 
     private static void boundsOfLines() {
@@ -424,78 +425,78 @@ final class EdgesOfTexts extends Edges {
         error(HEAD + ";fill 6 6 1", 2, 38);
         error(HEAD + ";fill 0 6 1", 2, 40);
         error("memory 1 band 1 limit 0 policy 0;put 1 1", 2, 37);
-        due(Check.stored(loaded(HEAD + ";put 0 1;put 5 2")), "1 0 0 0 0 2");
-        due(locks(loaded(HEAD + ";lock 0 0;lock 5 5")), "L....L");
-        due(Check.sources(loaded(HEAD + ";copy 0 5 1;copy 4 3 1")), "- - - 4 - 0");
-        due(Check.sources(loaded(HEAD + ";copy 5 0 1")), "5 - - - - -");
-        due(Check.stored(loaded(HEAD + ";fill 0 0 1;fill 5 5 2")), "1 0 0 0 0 2");
-        due(loaded("memory 96 band 1 limit 9 policy 0;put 95 1").stored(95), 1);
+        due(Check.stored(Check.loaded(HEAD + ";put 0 1;put 5 2")), "1 0 0 0 0 2");
+        due(locks(Check.loaded(HEAD + ";lock 0 0;lock 5 5")), "L....L");
+        due(Check.sources(Check.loaded(HEAD + ";copy 0 5 1;copy 4 3 1")), "- - - 4 - 0");
+        due(Check.sources(Check.loaded(HEAD + ";copy 5 0 1")), "5 - - - - -");
+        due(Check.stored(Check.loaded(HEAD + ";fill 0 0 1;fill 5 5 2")), "1 0 0 0 0 2");
+        due(Check.loaded("memory 96 band 1 limit 9 policy 0;put 95 1").stored(95), 1);
         says("BYTE 0 to 255,");
         error(HEAD + ";put 0 256", 2, 39);
         error(HEAD + ";put 0 1 256", 2, 41);
         error(HEAD + ";fill 0 0 256", 2, 42);
-        due(Check.stored(loaded(HEAD + ";put 0 255 0 255;fill 4 4 255;fill 0 0 0")), "0 0 255 0 255 0");
+        due(Check.stored(Check.loaded(HEAD + ";put 0 255 0 255;fill 4 4 255;fill 0 0 0")), "0 0 255 0 255 0");
         says("LENGTH 1 to SIZE.");
         error(HEAD + ";copy 0 0 0", 2, 42);
         error(HEAD + ";copy 0 0 7", 2, 42);
-        due(loaded(HEAD + ";copy 0 0 6").account(1), 6);
-        due(loaded(HEAD + ";copy 0 0 1").account(1), 1);
+        due(Check.loaded(HEAD + ";copy 0 0 6").account(1), 6);
+        due(Check.loaded(HEAD + ";copy 0 0 1").account(1), 1);
         error("memory 1 band 1 limit 0 policy 0;copy 0 0 2", 2, 42);
-        due(loaded("memory 1 band 1 limit 0 policy 0;copy 0 0 1").account(4), 1);
+        due(Check.loaded("memory 1 band 1 limit 0 policy 0;copy 0 0 1").account(4), 1);
     }
 
     // ---- the lines
 
     private static void putLines() {
         at("Section 6");
-        says("A put line fills PLACE and the places behind it with the BYTES, one each, as told, whether they are locked"
-                + " or not.");
-        due(Check.stored(loaded(HEAD + ";put 0 1 2 3 4 5 6")), "1 2 3 4 5 6");
-        due(Check.stored(loaded(HEAD + ";put 5 6")), "0 0 0 0 0 6");
-        due(Check.stored(loaded(HEAD + ";put 1 7 8;put 2 9")), "0 7 9 0 0 0");
-        CopyDebts x = loaded(HEAD + ";lock 0 5;put 4 8 9");
+        says("A put line fills PLACE and the places behind it with the BYTES, one each, as told, whether they are"
+                + " locked or not.");
+        due(Check.stored(Check.loaded(HEAD + ";put 0 1 2 3 4 5 6")), "1 2 3 4 5 6");
+        due(Check.stored(Check.loaded(HEAD + ";put 5 6")), "0 0 0 0 0 6");
+        due(Check.stored(Check.loaded(HEAD + ";put 1 7 8;put 2 9")), "0 7 9 0 0 0");
+        CopyDebts x = Check.loaded(HEAD + ";lock 0 5;put 4 8 9");
         due(Check.stored(x), "0 0 0 0 8 9");
         due(locks(x), "LLLLLL");
         due(x.events(), 0);
         due(Check.accounts(x), "0 0 0 0 0 0 0 0 0");
         String all = "memory 96 band 1 limit 0 policy 0;put 0" + " 7".repeat(96);
-        due(loaded(all).sum(0, 95), 96 * 7);
+        due(Check.loaded(all).sum(0, 95), 96 * 7);
         error(all + " 7", 2, all.length() + 1);
     }
 
     private static void lockLines() {
         at("Section 6");
         says("A lock line locks the places from the first to the second PLACE, which is not less than the first.");
-        due(locks(loaded(HEAD + ";lock 2 2")), "..L...");
-        due(locks(loaded(HEAD + ";lock 0 5")), "LLLLLL");
-        due(locks(loaded(HEAD + ";lock 1 3;lock 3 4")), ".LLLL.");
+        due(locks(Check.loaded(HEAD + ";lock 2 2")), "..L...");
+        due(locks(Check.loaded(HEAD + ";lock 0 5")), "LLLLLL");
+        due(locks(Check.loaded(HEAD + ";lock 1 3;lock 3 4")), ".LLLL.");
         error(HEAD + ";lock 2 1", 2, 40);
         error(HEAD + ";lock 5 0", 2, 40);
         // Those that owe are paid, as in section 3, by ascending numbers.
-        CopyDebts x = loaded(HEAD + ";put 0 5 6;copy 0 3 2;lock 0 4");
+        CopyDebts x = Check.loaded(HEAD + ";put 0 5 6;copy 0 3 2;lock 0 4");
         due(Check.events(x, 0), "0:3:2 2:3:5 2:4:6");
     }
 
     private static void copyLines() {
         at("Section 6");
         says("A copy line is a copy from the first PLACE to the second one.");
-        CopyDebts x = loaded(HEAD + ";put 0 1 2 3 4 5 6;copy 1 4 2;copy 4 0 1;copy 2 3 2");
+        CopyDebts x = Check.loaded(HEAD + ";put 0 1 2 3 4 5 6;copy 1 4 2;copy 4 0 1;copy 2 3 2");
         // 4 < 1, 5 < 2, 0 < 4; the targets 3 and 4 force 0 and drop 4, which gets the value of 3.
         due(Check.events(x, 0), "0:4:2 0:0:1 0:3:2 2:0:2 4:4:0 3:4:4");
         due(Check.sources(x), "- - - 2 - 2");
         due(Check.accounts(x), "3 5 0 1 1 1 0 5 0");
-        CopyDebts limited = loaded(HEAD.replace("limit 4", "limit 0") + ";put 0 9;copy 0 5 1");
+        CopyDebts limited = Check.loaded(HEAD.replace("limit 4", "limit 0") + ";put 0 9;copy 0 5 1");
         due(Check.events(limited, 0), "0:5:1 2:5:9");
     }
 
     private static void fillLines() {
         at("Section 6");
         says("A fill line fills the places from the first to the second PLACE, which is not less than the first.");
-        due(Check.stored(loaded(HEAD + ";fill 3 3 8")), "0 0 0 8 0 0");
-        due(Check.stored(loaded(HEAD + ";fill 0 5 8")), "8 8 8 8 8 8");
+        due(Check.stored(Check.loaded(HEAD + ";fill 3 3 8")), "0 0 0 8 0 0");
+        due(Check.stored(Check.loaded(HEAD + ";fill 0 5 8")), "8 8 8 8 8 8");
         error(HEAD + ";fill 2 1 8", 2, 40);
         error(HEAD + ";fill 5 0 8", 2, 40);
-        CopyDebts x = loaded(HEAD + ";put 0 1 2;copy 0 3 1;copy 1 4 1;fill 1 3 8");
+        CopyDebts x = Check.loaded(HEAD + ";put 0 1 2;copy 0 3 1;copy 1 4 1;fill 1 3 8");
         due(Check.events(x, 0), "0:3:1 0:4:1 2:4:2 4:3:0");
         due(Check.stored(x), "1 8 8 8 2 0");
     }
@@ -503,41 +504,41 @@ final class EdgesOfTexts extends Edges {
     private static void orderOfLines() {
         at("Section 6");
         says("All lines are done in their order.");
-        due(Check.values(loaded(HEAD + ";put 0 1;copy 0 1 1;fill 0 0 9;copy 0 2 1")), "9 1 9 0 0 0");
-        due(Check.stored(loaded(HEAD + ";fill 0 0 9;put 0 1")), "1 0 0 0 0 0");
-        due(Check.stored(loaded(HEAD + ";put 0 1;fill 0 0 9")), "9 0 0 0 0 0");
-        due(Check.sources(loaded(HEAD + ";copy 0 1 1;lock 1 1")), "- - - - - -");
+        due(Check.values(Check.loaded(HEAD + ";put 0 1;copy 0 1 1;fill 0 0 9;copy 0 2 1")), "9 1 9 0 0 0");
+        due(Check.stored(Check.loaded(HEAD + ";fill 0 0 9;put 0 1")), "1 0 0 0 0 0");
+        due(Check.stored(Check.loaded(HEAD + ";put 0 1;fill 0 0 9")), "9 0 0 0 0 0");
+        due(Check.sources(Check.loaded(HEAD + ";copy 0 1 1;lock 1 1")), "- - - - - -");
         error(HEAD + ";lock 1 1;copy 0 1 1", 3, 51);
     }
 
     private static void ruleLines() {
         at("Section 6");
         says("With a short line the rule short is set from then on, with a settle line the rule settle (see fetch).");
-        CopyDebts x = loaded(HEAD + ";copy 0 1 1;copy 1 2 1;short;copy 1 3 1");
+        CopyDebts x = Check.loaded(HEAD + ";copy 0 1 1;copy 1 2 1;short;copy 1 3 1");
         due(Check.sources(x), "- 0 1 0 - -");
         due(x.setting(3), 1);
         due(x.setting(4), 0);
         x.copy(2, 4, 1);
         due(x.source(4), 0);
-        CopyDebts y = loaded(HEAD + ";copy 0 1 1;settle");
+        CopyDebts y = Check.loaded(HEAD + ";copy 0 1 1;settle");
         due(y.setting(3), 0);
         due(y.setting(4), 1);
         y.fetch(1);
         due(y.source(1), -1);
-        due(loaded(HEAD + ";settle;short").setting(3), 1);
-        due(loaded(HEAD + ";settle;short").setting(4), 1);
-        due(loaded(HEAD).setting(3), 0);
-        due(loaded(HEAD).setting(4), 0);
+        due(Check.loaded(HEAD + ";settle;short").setting(3), 1);
+        due(Check.loaded(HEAD + ";settle;short").setting(4), 1);
+        due(Check.loaded(HEAD).setting(3), 0);
+        due(Check.loaded(HEAD).setting(4), 0);
     }
 
     private static void countsOfLines() {
         at("Section 6");
         says("There are at most 20 put lines, 6 lock lines, 20 copy lines and 6 fill lines.");
-        due(loaded(HEAD + ";put 0 1".repeat(20)).stored(0), 1);
-        due(locks(loaded(HEAD + ";lock 0 0".repeat(6))), "L.....");
-        due(loaded(HEAD + ";copy 0 1 1".repeat(20)).account(0), 20);
-        due(loaded(HEAD + ";fill 0 0 1".repeat(6)).stored(0), 1);
-        CopyDebts x = loaded(HEAD + ";put 0 1".repeat(20) + ";lock 0 0".repeat(6) + ";copy 0 1 1".repeat(20)
+        due(Check.loaded(HEAD + ";put 0 1".repeat(20)).stored(0), 1);
+        due(locks(Check.loaded(HEAD + ";lock 0 0".repeat(6))), "L.....");
+        due(Check.loaded(HEAD + ";copy 0 1 1".repeat(20)).account(0), 20);
+        due(Check.loaded(HEAD + ";fill 0 0 1".repeat(6)).stored(0), 1);
+        CopyDebts x = Check.loaded(HEAD + ";put 0 1".repeat(20) + ";lock 0 0".repeat(6) + ";copy 0 1 1".repeat(20)
                 + ";fill 1 1 1".repeat(6) + ";short;settle");
         due(x.account(0), 20);
         due(x.setting(4), 1);
@@ -546,8 +547,12 @@ final class EdgesOfTexts extends Edges {
         error(HEAD + ";copy 0 1 1".repeat(21), 4, 253);
         error(HEAD + ";fill 0 0 1".repeat(7), 4, 99);
         // The counts start anew with each text.
-        CopyDebts again = loaded(HEAD + ";fill 0 0 1".repeat(6));
-        due(Check.load(again, HEAD + ";fill 0 0 1".repeat(6)), 6);
+        String all = HEAD + ";put 0 1".repeat(20) + ";lock 0 0".repeat(6) + ";fill 1 1 1".repeat(6)
+                + ";copy 0 1 1".repeat(20);
+        CopyDebts again = Check.loaded(all);
+        due(Check.load(again, all), 6);
+        due(thrownBy(again, y -> Check.load(y, all + ";")), "IllegalArgumentException");
+        due(Check.load(again, all), 6);
     }
 
     private static void putBehindCopy() {
@@ -555,8 +560,8 @@ final class EdgesOfTexts extends Edges {
         says("Put lines do not come behind copy lines.");
         error(HEAD + ";copy 0 1 1;put 0 1", 1, 44);
         error(HEAD + ";copy 0 1 1;fill 1 1 0;put 0 1", 1, 55);
-        due(Check.stored(loaded(HEAD + ";fill 0 5 1;lock 0 0;short;settle;put 0 2;copy 0 1 1")), "2 1 1 1 1 1");
-        CopyDebts again = loaded(HEAD + ";copy 0 1 1");
+        due(Check.stored(Check.loaded(HEAD + ";fill 0 5 1;lock 0 0;short;settle;put 0 2;copy 0 1 1")), "2 1 1 1 1 1");
+        CopyDebts again = Check.loaded(HEAD + ";copy 0 1 1");
         due(Check.load(again, HEAD + ";put 0 1"), 6);
     }
 
@@ -627,7 +632,8 @@ final class EdgesOfTexts extends Edges {
     private static void codeOne() {
         at("Section 6");
         says("1: a byte that starts no token,");
-        for (char sign : new char[] {0, 31, '!', '-', '/', ':', '<', '@', 'A', 'Z', '[', '`', '{', 127, 128, 233, 255}) {
+        char[] signs = {0, 31, '!', '-', '/', ':', '<', '@', 'A', 'Z', '[', '`', '{', 127, 128, 233, 255};
+        for (char sign : signs) {
             error("" + sign, 1, 0);
             error("memory " + sign + "6", 1, 7);
             error(HEAD + ";" + sign, 1, 33);
@@ -667,6 +673,9 @@ final class EdgesOfTexts extends Edges {
         error(HEAD + ";lock 0 lock", 1, 40);
         error(HEAD + ";copy 0 0 ;", 1, 42);
         error(HEAD + ";fill 0 0 0 fill", 1, 44);
+        error("nemory 6", 1, 0);
+        error(HEAD + ";ahort", 1, 33);
+        error(HEAD + ";shoru", 1, 33);
         error(HEAD + ";puts 0 1", 1, 33);
         error(HEAD + ";pu 0 1", 1, 33);
         error(HEAD + ";copy 0 1 1;put 0 1", 1, 44);
@@ -678,7 +687,7 @@ final class EdgesOfTexts extends Edges {
         String[] complete = {HEAD, HEAD + ";put 0 1", HEAD + ";put 0 1 2", HEAD + ";lock 0 1", HEAD + ";copy 0 1 1",
             HEAD + ";fill 0 1 1", HEAD + ";short", HEAD + ";settle"};
         for (String text : complete) {
-            due(loaded(text).size(), 6);
+            due(Check.loaded(text).size(), 6);
             String start = text.equals(HEAD) ? "" : HEAD;
             String line = text.substring(start.length());
             // Cut off behind each blank of it, and behind each token ahead of one.
@@ -703,20 +712,26 @@ final class EdgesOfTexts extends Edges {
         error(HEAD + ";put 0 999", 2, 39);
         error(HEAD + ";fill 0 1 256", 2, 42);
         error(HEAD + ";copy 0 1 999", 2, 42);
+        error(LARGEST + ";put 96 1", 2, 38);
+        error(LARGEST + ";lock 95 96", 2, 42);
+        error(LARGEST + ";fill 96 96 1", 2, 39);
+        error(LARGEST + ";copy 96 0 1", 2, 39);
+        error(LARGEST + ";copy 0 0 97", 2, 43);
         says("a BYTE for which there is no place;");
+        error(LARGEST + ";put 95 1 2", 2, 43);
         error(HEAD + ";put 5 1 2", 2, 41);
         error(HEAD + ";put 0 1 2 3 4 5 6 7", 2, 51);
         error(HEAD + ";put 4 1 2 3 x", 2, 43);
-        due(Check.stored(loaded(HEAD + ";put 5 1")), "0 0 0 0 0 1");
+        due(Check.stored(Check.loaded(HEAD + ";put 5 1")), "0 0 0 0 0 1");
         says("the second PLACE of a lock or fill line that is less than the first one.");
         error(HEAD + ";lock 1 0", 2, 40);
         error(HEAD + ";lock 5 4", 2, 40);
         error(HEAD + ";fill 1 0 1", 2, 40);
         error(HEAD + ";fill 5 4 256", 2, 40);
-        due(locks(loaded(HEAD + ";lock 5 5")), ".....L");
-        due(Check.stored(loaded(HEAD + ";fill 5 5 1")), "0 0 0 0 0 1");
+        due(locks(Check.loaded(HEAD + ";lock 5 5")), ".....L");
+        due(Check.stored(Check.loaded(HEAD + ";fill 5 5 1")), "0 0 0 0 0 1");
         // The second PLACE of a copy may be less than the first one.
-        due(Check.sources(loaded(HEAD + ";copy 5 4 1")), "- - - - 5 -");
+        due(Check.sources(Check.loaded(HEAD + ";copy 5 4 1")), "- - - - 5 -");
     }
 
     private static void codeThree() {
@@ -727,24 +742,27 @@ final class EdgesOfTexts extends Edges {
         error(HEAD + ";short;settle;short", 3, 46);
         error(HEAD + ";settle;short;settle", 3, 46);
         error(HEAD + ";short;short 1", 3, 39);
-        CopyDebts x = loaded(HEAD + ";short;settle");
+        CopyDebts x = Check.loaded(HEAD + ";short;settle");
         due(Check.load(x, HEAD + ";short;settle"), 6);
         says("the LENGTH of a copy that is impossible;");
         error(HEAD + ";copy 0 5 2", 3, 42);
         error(HEAD + ";copy 5 0 2", 3, 42);
         error(HEAD + ";copy 1 1 6", 3, 42);
         error(HEAD + ";copy 5 5 6", 3, 42);
+        error(LARGEST + ";copy 95 0 2", 3, 44);
+        error(LARGEST + ";copy 0 95 2", 3, 44);
+        error(LARGEST + ";copy 95 95 96", 3, 45);
         error(HEAD + ";lock 2 2;copy 0 1 2", 3, 51);
         error(HEAD + ";lock 2 2;copy 0 2 1", 3, 51);
         error(HEAD + ";lock 2 2;copy 2 2 1", 3, 51);
-        due(Check.sources(loaded(HEAD + ";lock 2 2;copy 2 1 1;copy 2 3 1")), "- 2 - 2 - -");
+        due(Check.sources(Check.loaded(HEAD + ";lock 2 2;copy 2 1 1;copy 2 3 1")), "- 2 - 2 - -");
         says("the BYTE of a fill line if one of its places is locked.");
         error(HEAD + ";lock 2 2;fill 2 2 0", 3, 51);
         error(HEAD + ";lock 2 2;fill 1 2 0", 3, 51);
         error(HEAD + ";lock 2 2;fill 2 3 0", 3, 51);
         error(HEAD + ";lock 2 2;fill 0 5 255", 3, 51);
-        due(Check.stored(loaded(HEAD + ";lock 2 2;fill 0 1 7;fill 3 5 8")), "7 7 0 8 8 8");
-        due(Check.stored(loaded(HEAD + ";fill 2 2 7;lock 2 2")), "0 0 7 0 0 0");
+        due(Check.stored(Check.loaded(HEAD + ";lock 2 2;fill 0 1 7;fill 3 5 8")), "7 7 0 8 8 8");
+        due(Check.stored(Check.loaded(HEAD + ";fill 2 2 7;lock 2 2")), "0 0 7 0 0 0");
     }
 
     private static void codeFour() {

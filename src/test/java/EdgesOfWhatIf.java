@@ -1,7 +1,7 @@
 /** The edges that promises 33 to 42 name: what-if questions. */
 final class EdgesOfWhatIf extends Edges {
-    private static final String EIGHT = "memory 8 band 2 limit 8 policy 0;put 0 1 2 3 4 5 6 7 8";
-    private static final String NINETY_SIX = "memory 96 band 20 limit 96 policy 0";
+
+    private static final String WIDE_BAND = NINETY_SIX.replace("band 1", "band 20");
 
     /** A copy that is impossible, for each of the three reasons: FROM, TO, LENGTH. */
     private static final int[][] IMPOSSIBLE = {{0, 0, 0}, {0, 0, -1}, {0, 0, LEAST}, {-1, 0, 1}, {SIZE, 0, 1},
@@ -51,6 +51,11 @@ final class EdgesOfWhatIf extends Edges {
         due(Check.loaded(NINETY_SIX).whyCopy(0, 0, 96), 0);
         due(Check.loaded(NINETY_SIX).whyCopy(95, 0, 1), 0);
         due(Check.loaded(NINETY_SIX).whyCopy(0, 95, 1), 0);
+        due(Check.loaded(NINETY_SIX).whyCopy(95, 0, 2), 2);
+        due(Check.loaded(NINETY_SIX).whyCopy(0, 95, 2), 2);
+        due(Check.loaded(NINETY_SIX).whyCopy(1, 0, 96), 2);
+        due(Check.loaded(NINETY_SIX).whyCopy(0, 1, 96), 2);
+        due(Check.loaded(NINETY_SIX + ";lock 95 95").whyCopy(0, 95, 1), 3);
         due(Check.loaded("memory 1 band 1 limit 0 policy 0").whyCopy(0, 0, 1), 0);
         needsMemory(x -> x.whyCopy(0, 0, 1));
     }
@@ -179,12 +184,9 @@ final class EdgesOfWhatIf extends Edges {
         due(Check.loaded(EIGHT + ";copy 0 6 2").ticksToClear(), 1);
         due(Check.loaded(EIGHT + ";copy 0 5 3").ticksToClear(), 2);
         due(Check.loaded(EIGHT + ";copy 0 4 4").ticksToClear(), 2);
-        due(Check.loaded(NINETY_SIX + ";copy 0 48 20").ticksToClear(), 1);
-        due(Check.loaded(NINETY_SIX + ";copy 0 48 21").ticksToClear(), 2);
-        CopyDebts most = Check.loaded("memory 96 band 1 limit 96 policy 2");
-        for (int p = 1; p < 96; p++) {
-            most.copy(p - 1, p, 1);
-        }
+        due(Check.loaded(WIDE_BAND + ";copy 0 48 20").ticksToClear(), 1);
+        due(Check.loaded(WIDE_BAND + ";copy 0 48 21").ticksToClear(), 2);
+        CopyDebts most = chain(NINETY_SIX.replace("policy 0", "policy 2"), 95);
         due(most.ticksToClear(), 95);
         says("Returns the number; 0 if no place owes now.");
         due(Check.loaded(EIGHT).ticksToClear(), 0);
@@ -201,12 +203,9 @@ final class EdgesOfWhatIf extends Edges {
         gives(0, x -> x.owedAfter(100));
         due(Check.loaded(EIGHT).owedAfter(1), 0);
         due(Check.loaded(EIGHT).owedAfter(100), 0);
-        due(Check.loaded(NINETY_SIX + ";copy 0 48 21").owedAfter(1), 1);
-        due(Check.loaded(NINETY_SIX + ";copy 0 48 20").owedAfter(1), 0);
-        CopyDebts most = Check.loaded("memory 96 band 1 limit 96 policy 2");
-        for (int p = 1; p < 96; p++) {
-            most.copy(p - 1, p, 1);
-        }
+        due(Check.loaded(WIDE_BAND + ";copy 0 48 21").owedAfter(1), 1);
+        due(Check.loaded(WIDE_BAND + ";copy 0 48 20").owedAfter(1), 0);
+        CopyDebts most = chain(NINETY_SIX.replace("policy 0", "policy 2"), 95);
         due(most.owedAfter(1), 94);
         due(most.owedAfter(94), 1);
         due(most.owedAfter(95), 0);
@@ -227,16 +226,13 @@ final class EdgesOfWhatIf extends Edges {
         gives(1, x -> x.paidIn(4));
         gives(1, x -> x.paidIn(5));
         gives(2, x -> x.paidIn(2));
-        CopyDebts x = Check.loaded(NINETY_SIX + ";copy 0 48 41");
+        CopyDebts x = Check.loaded(WIDE_BAND + ";copy 0 48 41");
         due(x.paidIn(48), 1);
         due(x.paidIn(67), 1);
         due(x.paidIn(68), 2);
         due(x.paidIn(87), 2);
         due(x.paidIn(88), 3);
-        CopyDebts most = Check.loaded("memory 96 band 1 limit 96 policy 2");
-        for (int p = 1; p < 96; p++) {
-            most.copy(p - 1, p, 1);
-        }
+        CopyDebts most = chain(NINETY_SIX.replace("policy 0", "policy 2"), 95);
         due(most.paidIn(95), 1);
         due(most.paidIn(1), 95);
         says("Returns the tick; 0 if it does not owe.");
@@ -266,6 +262,15 @@ final class EdgesOfWhatIf extends Edges {
         due(Check.loaded(head + last).bestPolicy(), 3);
         // A tick in which all six are paid leaves no hops by any of them.
         due(Check.loaded(head.replace("band 1", "band 6") + last).bestPolicy(), 0);
+        // In one tick policy 2 takes three hops, as 5 is paid, and the others one; in two ticks policy 0 would be best.
+        due(Check.loaded(head + ";copy 0 1 1;copy 0 7 1;copy 7 6 1;copy 6 5 1;copy 7 4 1;copy 7 3 1").bestPolicy(), 2);
+        // The first place counts: by policy 0 one hop less, by the others two.
+        due(Check.loaded(head + ";copy 7 6 1;copy 7 2 1;copy 2 0 1").bestPolicy(), 1);
+        // So does the last one, and a smaller memory behind a larger one has no hops of it.
+        CopyDebts large = Check.loaded(head.replace("memory 8", "memory 96") + ";copy 0 90 1;copy 0 94 1;copy 94 95 1");
+        due(large.bestPolicy(), 2);
+        due(Check.load(large, head + ";copy 7 6 1;copy 7 2 1;copy 2 0 1"), 8);
+        due(large.bestPolicy(), 1);
         says("Returns the policy, of several the smallest one.");
         due(Check.loaded(EIGHT.replace("policy 0", "policy 3")).bestPolicy(), 0);
         due(Check.loaded(EIGHT.replace("policy 0", "policy 3") + ";copy 0 7 1").bestPolicy(), 0);

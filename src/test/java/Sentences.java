@@ -92,25 +92,27 @@ final class Sentences {
         addPlain(parts, "What it is", between(whole, "## What it is", "## The public face"));
         for (String section : between(whole, "## Terms", "The constants:").split("\n(?=\\d\\. [A-Z])")) {
             if (section.matches("(?s)\\d\\. .*")) {
-                addPlain(parts, "Section " + section.charAt(0), section.substring(section.indexOf('\n')));
+                addPlain(parts, "Section " + section.charAt(0), section);
             }
         }
-        for (String promise : between(whole, "\n## Promise 1:", "## Not promised").split("\n## ")) {
-            if (!promise.isBlank()) {
-                addPromise(parts, promise);
-            }
+        for (String promise : between(whole, "## Promise 1:", "## Not promised").split("\n(?=## )")) {
+            addPromise(parts, promise);
         }
         return parts;
     }
 
-    private static String between(String whole, String start, String end) {
-        int from = whole.indexOf(start);
-        return whole.substring(start.contains("Promise") ? from : from + start.length(), whole.indexOf(end));
+    /** From a heading up to what comes behind its part. */
+    private static String between(String whole, String heading, String end) {
+        return whole.substring(whole.indexOf(heading), whole.indexOf(end));
+    }
+
+    private static String withoutHeading(String text) {
+        return text.substring(text.indexOf('\n'));
     }
 
     private static void addPlain(Map<String, Part> parts, String where, String text) {
         Part part = new Part();
-        for (String paragraph : text.split("\n\n")) {
+        for (String paragraph : withoutHeading(text).split("\n\n")) {
             for (String sentence : paragraph.replaceAll("\\s+", " ").split("(?<=[^.]\\.) (?=[A-Z(])|(?= line = )")) {
                 part.add(sentence);
             }
@@ -122,7 +124,7 @@ final class Sentences {
         Part part = new Part();
         Matcher name = Pattern.compile("Promise \\d+").matcher(text);
         String where = name.find() ? name.group() : "";
-        for (String paragraph : text.substring(text.indexOf('\n')).split("\n\n|\n(?=- `)")) {
+        for (String paragraph : withoutHeading(text).split("\n\n|\n(?=- `)")) {
             String plain = paragraph.replaceAll("\\s+", " ").trim().replaceFirst("^`[^`]*\\([^`]*`: ", "");
             for (String sentence : plain.split("(?<=\\.) (?=[A-Z])")) {
                 part.add(sentence);

@@ -1,5 +1,8 @@
+import java.lang.reflect.Method;
+import java.lang.reflect.Modifier;
 import java.nio.file.Files;
 import java.nio.file.Path;
+import java.util.ArrayList;
 import java.util.List;
 import java.util.Set;
 import java.util.TreeSet;
@@ -32,6 +35,7 @@ public final class SourceRulesTest {
         Check.due("6: throw is always throw new", found(bare, "throw (?!new )"), "");
         Check.due("5: static fields", found(bare, "static (?!final)[^(;{]*;"), "");
         Check.due("4: the library", LIBRARY.containsAll(calls(bare)), true);
+        privateMethodsHaveNamesOfTheirOwn();
         methodsAreShort(source);
         Check.finish();
     }
@@ -53,6 +57,26 @@ public final class SourceRulesTest {
             calls.add(matcher.group());
         }
         return calls;
+    }
+
+    /** Those of the classes inside are private, too. */
+    private static void privateMethodsHaveNamesOfTheirOwn() {
+        Set<String> names = new TreeSet<>();
+        for (Method method : CopyDebts.class.getDeclaredMethods()) {
+            if (Modifier.isPublic(method.getModifiers())) {
+                names.add(method.getName());
+            }
+        }
+        List<Method> inside = new ArrayList<>(List.of(CopyDebts.class.getDeclaredMethods()));
+        for (Class<?> nested : CopyDebts.class.getDeclaredClasses()) {
+            Check.due("1: " + nested + " is static and not public", Modifier.isStatic(nested.getModifiers())
+                    && !Modifier.isPublic(nested.getModifiers()) && !Modifier.isProtected(nested.getModifiers()), true);
+            inside.addAll(List.of(nested.getDeclaredMethods()));
+        }
+        for (Method method : inside) {
+            boolean isOfTheFace = Modifier.isPublic(method.getModifiers());
+            Check.due("1: the name of " + method, !isOfTheFace && names.contains(method.getName()), false);
+        }
     }
 
     private static void methodsAreShort(String source) {
