@@ -506,7 +506,7 @@ public final class CopyDebts {
         return text.signs[i];
     }
 
-    // ---- changes
+    // ---- changes (each can be undone, the latest one first)
 
     public int copy(int from, int to, int length)
             throws IllegalStateException, IllegalArgumentException {

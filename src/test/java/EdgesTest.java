@@ -1,6 +1,7 @@
-/** The edges that the document names, sentence by sentence: the sections, the text format, and each promise. */
+/** The edges that the document names, sentence by sentence: the face, the sections, the text format, and each promise. */
 public final class EdgesTest {
     public static void main(String[] args) {
+        EdgesOfFace.run();
         EdgesOfSections.run();
         EdgesOfTexts.run();
         EdgesOfQuestions.run();

@@ -12,12 +12,12 @@ import java.util.TreeSet;
 
 /** The public face is the document's, and every call of it that needs a memory says so first. */
 public final class FaceTest {
-    private static final Path DOCUMENT = Path.of("../shared/DOC.md");
     private static final Set<String> WITHOUT_MEMORY = Set.of("append", "load", "parseError", "errorPosition",
             "buffered", "size", "events", "textByte", "undoable");
 
     public static void main(String[] args) throws Exception {
         theFaceIsThatOfTheDocument();
+        theSourceDeclaresItWordByWord();
         callsNeedAMemoryFirst(new CopyDebts());
         CopyDebts failed = new CopyDebts();
         Check.noArgument("load of half a text", () -> Check.load(failed, "memory 4"));
@@ -27,15 +27,8 @@ public final class FaceTest {
 
     private static void theFaceIsThatOfTheDocument() throws Exception {
         Set<String> want = new TreeSet<>();
-        boolean inside = false;
-        for (String line : Files.readAllLines(DOCUMENT)) {
-            if (line.startsWith("public final class")) {
-                inside = true;
-            } else if (inside && line.equals("}")) {
-                break;
-            } else if (inside) {
-                want.add(plain(line));
-            }
+        for (String line : Document.face()) {
+            want.add(plain(line));
         }
         Set<String> got = new TreeSet<>();
         for (Field field : CopyDebts.class.getDeclaredFields()) {
@@ -54,6 +47,16 @@ public final class FaceTest {
         Check.due("the face", String.join("\n", got), String.join("\n", want));
         Check.due("the class is public and final", CopyDebts.class.getModifiers(),
                 Modifier.PUBLIC | Modifier.FINAL);
+    }
+
+    /** With the names of the parameters, which the compiled class has lost. */
+    private static void theSourceDeclaresItWordByWord() throws Exception {
+        String source = Files.readString(Path.of("src/main/java/CopyDebts.java")).replaceAll("\\s+", " ");
+        for (String line : Document.face()) {
+            boolean isConstant = line.contains(" = ");
+            String declared = isConstant ? line : line.replace(";", " {");
+            Check.due("the source declares " + line, source.contains(" " + declared + " "), true);
+        }
     }
 
     /** A line of the document without the names of the parameters. */

@@ -1,7 +1,3 @@
-import java.io.IOException;
-import java.io.UncheckedIOException;
-import java.nio.file.Files;
-import java.nio.file.Path;
 import java.util.ArrayList;
 import java.util.BitSet;
 import java.util.HashSet;
@@ -13,7 +9,7 @@ import java.util.regex.Matcher;
 import java.util.regex.Pattern;
 
 /**
- * The sentences of the document, by section and by promise. A test quotes the one that it holds; at the end each
+ * The sentences of the document, by section and by promise, but for "Not promised". A test quotes the one that it holds; at the end each
  * sentence of them must have been quoted, and for each two exceptions of a promise there must have been a test of
  * their order.
  */
@@ -82,28 +78,19 @@ final class Sentences {
     }
 
     private static Map<String, Part> read() {
-        String whole;
-        try {
-            whole = Files.readString(Path.of("../shared/DOC.md"));
-        } catch (IOException e) {
-            throw new UncheckedIOException(e);
-        }
         Map<String, Part> parts = new LinkedHashMap<>();
-        addPlain(parts, "What it is", between(whole, "## What it is", "## The public face"));
-        for (String section : between(whole, "## Terms", "The constants:").split("\n(?=\\d\\. [A-Z])")) {
+        addPlain(parts, "What it is", Document.between("## What it is", "## The public face"));
+        addPlain(parts, "Terms", Document.between("## Terms", "\n1. "));
+        for (String section : Document.between("## Terms", "The constants:").split("\n(?=\\d\\. [A-Z])")) {
             if (section.matches("(?s)\\d\\. .*")) {
                 addPlain(parts, "Section " + section.charAt(0), section);
             }
         }
-        for (String promise : between(whole, "## Promise 1:", "## Not promised").split("\n(?=## )")) {
+        addPlain(parts, "The constants", "\n" + Document.between("The constants:", "## Promise 1:"));
+        for (String promise : Document.between("## Promise 1:", "## Not promised").split("\n(?=## )")) {
             addPromise(parts, promise);
         }
         return parts;
-    }
-
-    /** From a heading up to what comes behind its part. */
-    private static String between(String whole, String heading, String end) {
-        return whole.substring(whole.indexOf(heading), whole.indexOf(end));
     }
 
     private static String withoutHeading(String text) {
@@ -150,7 +137,7 @@ final class Sentences {
     }
 
     static void finish() {
-        Check.due("the parts of the document", PARTS.size(), 1 + 7 + 65);
+        Check.due("the parts of the document", PARTS.size(), 2 + 7 + 1 + 65);
         PARTS.forEach((where, part) -> part.reportTo(where));
     }
 }
